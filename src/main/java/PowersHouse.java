@@ -37,8 +37,7 @@ public final class PowersHouse {
 
   /** The place of a word here is its code; a blank ends each one. */
   private static final String WORDS =
-      "take refuse ask home not and or "
-          + "gain got lost souls near mine bound rank other day left linked ";
+      "take refuse ask home not and or gain got lost souls near mine bound rank other day left linked ";
   private static final int TAKE = 0;
   private static final int REFUSE = 1;
   private static final int ASK = 2;
@@ -253,11 +252,7 @@ public final class PowersHouse {
   }
 
   public int why(int paper) {
-    if (!papers.isOffer(paper)) {
-      return NONE;
-    }
-    delegates.viewOffer(paper);
-    return delegates.firstLine(papers.receiver(paper), false);
+    return papers.isOffer(paper) ? delegates.firstLine(paper, false) : NONE;
   }
 
   public long tries(int paper, int line) {
@@ -364,7 +359,18 @@ public final class PowersHouse {
     if (!articles.isArticle(article)) {
       return NONE;
     }
-    return articles.tellLaid(article, what);
+    switch (what) {
+      case 0:
+        return articles.baseOf(article);
+      case 1:
+        return articles.draftLength(article, articles.baseOf(article));
+      case 2:
+        return articles.isOpen(article) ? 1 : 0;
+      case 3:
+        return articles.isOpen(article) ? 0 : articles.signersOf(article);
+      default:
+        return NONE;
+    }
   }
 
   public int word(int article, int k, int what) {
@@ -552,7 +558,10 @@ public final class PowersHouse {
     }
 
     int worthOf(int state, int land) {
-      return isState(state) && isLand(land) ? worths[state * MAX_LANDS + land] : 0;
+      if (state < 0 || state >= MAX_STATES || land < 0 || land >= MAX_LANDS) {
+        return 0;
+      }
+      return worths[state * MAX_LANDS + land];
     }
 
     void setWorth(int state, int land, int n) {
@@ -601,8 +610,8 @@ public final class PowersHouse {
 
     int landsHeld(int state) {
       int bits = 0;
-      for (int land = 0; land < landCount; land++) {
-        if (holderOf(land) == state) {
+      for (int land = 0; land < landCount && land < MAX_LANDS; land++) {
+        if (holder[land] == state) {
           bits |= 1 << land;
         }
       }
@@ -625,9 +634,9 @@ public final class PowersHouse {
 
     int soulsOfLands(int lands) {
       int sum = 0;
-      for (int land = 0; land < landCount; land++) {
+      for (int land = 0; land < landCount && land < MAX_LANDS; land++) {
         if (hasBit(lands, land)) {
-          sum += soulsOf(land);
+          sum += souls[land];
         }
       }
       return sum;
@@ -1027,7 +1036,7 @@ public final class PowersHouse {
     OrdersBook() {}
 
     void copyFrom(OrdersReader reader, int state) {
-      if (!hasRow(state)) {
+      if (state < 0 || state >= MAX_STATES) {
         return;
       }
       lines[state] = Math.min(reader.lines, MAX_LINES);
@@ -1041,11 +1050,11 @@ public final class PowersHouse {
     }
 
     int linesOf(int state) {
-      return hasRow(state) ? lines[state] : 0;
+      return state >= 0 && state < MAX_STATES ? lines[state] : 0;
     }
 
     boolean isLine(int state, int line) {
-      return line >= 0 && line < linesOf(state) && line < MAX_LINES;
+      return line >= 0 && line < MAX_LINES && line < linesOf(state);
     }
 
     int verbOf(int state, int line) {
@@ -1057,11 +1066,10 @@ public final class PowersHouse {
     }
 
     int codeAt(int state, int k) {
-      return hasRow(state) && k >= 0 && k < MAX_KNOTS ? codes[state * MAX_KNOTS + k] : NUMBER;
-    }
-
-    private static boolean hasRow(int state) {
-      return state >= 0 && state < MAX_STATES;
+      if (state < 0 || state >= MAX_STATES || k < 0 || k >= MAX_KNOTS) {
+        return NUMBER;
+      }
+      return codes[state * MAX_KNOTS + k];
     }
   }
 
@@ -1194,7 +1202,7 @@ public final class PowersHouse {
     }
 
     boolean inOneChain(int a, int b) {
-      return isOffer(a) && isOffer(b) && root[a] == root[b];
+      return isPaper(a) && isPaper(b) && root[a] == root[b] && root[a] != NONE;
     }
 
     int standingOf(int paper) {
@@ -1315,19 +1323,17 @@ public final class PowersHouse {
     }
 
     private void answerOffer(int offer) {
-      int to = papers.receiver(offer);
       if (realm.today > papers.lastDayOf(offer)
           || !realm.isPresent(papers.sender(offer))
-          || !realm.isPresent(to)) {
+          || !realm.isPresent(papers.receiver(offer))) {
         papers.setStanding(offer, LAPSED);
         return;
       }
-      viewOffer(offer);
       if (papers.standingOf(offer) == PENDING) {
-        followLine(offer, firstLine(to, false));
+        followLine(offer, firstLine(offer, false));
       }
       if (papers.standingOf(offer) == ASKED && realm.today >= papers.answerDay(offer)) {
-        followCourt(offer, firstLine(to, true));
+        followCourt(offer, firstLine(offer, true));
       }
     }
 
@@ -1357,9 +1363,11 @@ public final class PowersHouse {
       }
     }
 
-    /** The first line that holds for the OFFER in view: of home, or of the other verbs. */
-    int firstLine(int state, boolean ofHome) {
+    /** The first line that holds for an OFFER: of home, or of the other verbs. */
+    int firstLine(int offer, boolean ofHome) {
+      int state = papers.receiver(offer);
       int lines = book.linesOf(state);
+      viewOffer(offer);
       for (int line = 0; line < lines; line++) {
         if ((book.verbOf(state, line) == HOME) == ofHome) {
           long value = lineValue(state, line);
@@ -1564,52 +1572,48 @@ public final class PowersHouse {
     /** Whether of two STATES, a before b, each could have more than it is told here. */
     boolean canBothHaveMore(int a, int b, int ofA, int ofB) {
       int pair = b * (b - 1) / 2 + a;
-      if (a < 0 || a >= b || pair >= PAIRS || ofA < 0 || ofA + 1 >= ROW) {
+      if (a < 0 || a >= b || b >= MAX_STATES || pair >= PAIRS || ofA < 0 || ofA + 1 >= ROW) {
         return false;
       }
-      if (most.length != PAIRS * ROW) {
+      if (most.length < PAIRS * ROW) {
         // Many objects never come here, and the table is large.
         most = new int[PAIRS * ROW];
       }
       if (madeAt[pair] != realm.changes) {
-        fillRow(pair * ROW, a, b);
         madeAt[pair] = realm.changes;
+        fillRow(pair * ROW, a, b);
       }
       return most[pair * ROW + ofA + 1] > ofB;
     }
 
     private void fillRow(int start, int a, int b) {
+      if (start < 0 || start + ROW > most.length) {
+        return;
+      }
       for (int v = 0; v < ROW; v++) {
-        put(start + v, v == 0 ? 0 : NONE);
+        most[start + v] = v == 0 ? 0 : NONE;
       }
       int lands = realm.landsHeld(a) | realm.landsHeld(b);
       int reach = 0;
-      for (int land = 0; land < realm.landCount; land++) {
+      for (int land = 0; land < MAX_LANDS; land++) {
         if (hasBit(lands, land)) {
           reach += realm.worthOf(a, land);
           addLand(start, reach, realm.worthOf(a, land), realm.worthOf(b, land));
         }
       }
-      for (int v = reach - 1; v >= 0; v--) {
-        put(start + v, Math.max(at(start + v), at(start + v + 1)));
+      for (int v = Math.min(reach, ROW - 1) - 1; v >= 0; v--) {
+        most[start + v] = Math.max(most[start + v], most[start + v + 1]);
       }
     }
 
     private void addLand(int start, int reach, int worthForA, int worthForB) {
-      for (int v = reach; v >= 0; v--) {
-        int ifB = at(start + v);
-        int ifA = v >= worthForA ? at(start + v - worthForA) : NONE;
-        put(start + v, Math.max(ifB == NONE ? NONE : ifB + worthForB, ifA));
+      if (start < 0 || start + ROW > most.length || worthForA < 0) {
+        return;
       }
-    }
-
-    private int at(int k) {
-      return k >= 0 && k < most.length ? most[k] : NONE;
-    }
-
-    private void put(int k, int value) {
-      if (k >= 0 && k < most.length) {
-        most[k] = value;
+      for (int v = Math.min(reach, ROW - 1); v >= 0; v--) {
+        int ifB = most[start + v] == NONE ? NONE : most[start + v] + worthForB;
+        int ifA = v >= worthForA ? most[start + v - worthForA] : NONE;
+        most[start + v] = Math.max(ifA, ifB);
       }
     }
   }
@@ -1628,6 +1632,8 @@ public final class PowersHouse {
     private final int[] choice = new int[MAX_DISPUTED];
     private final int[] gets = new int[MAX_STATES];
     private final int[] hasNow = new int[MAX_STATES];
+    /** The STATES (bits) that GET their BOUND. */
+    private int kept = 0;
     private int all = 0;
     private int fair = 0;
     private int stable = 0;
@@ -1690,8 +1696,9 @@ public final class PowersHouse {
       }
       for (int s = 0; s < MAX_STATES; s++) {
         int held = realm.landsHeld(s);
-        gets[s] = realm.worthOfLands(s, held & fixed);
         hasNow[s] = realm.worthOfLands(s, held);
+        gets[s] = 0;
+        addToGets(s, realm.worthOfLands(s, held & fixed));
       }
     }
 
@@ -1715,8 +1722,14 @@ public final class PowersHouse {
     }
 
     private void addToGets(int state, int n) {
-      if (state >= 0 && state < MAX_STATES) {
-        gets[state] += n;
+      if (state < 0 || state >= MAX_STATES) {
+        return;
+      }
+      gets[state] += n;
+      if (hasBit(states, state) && gets[state] >= realm.boundOf(state)) {
+        kept |= 1 << state;
+      } else {
+        kept &= ~(1 << state);
       }
     }
 
@@ -1733,19 +1746,7 @@ public final class PowersHouse {
       return false;
     }
 
-    /** The STATES (bits) that GET their BOUND. */
-    private int keptStates() {
-      int kept = 0;
-      for (int s = 0; s < MAX_STATES; s++) {
-        if (hasBit(states, s) && gets[s] >= realm.boundOf(s)) {
-          kept |= 1 << s;
-        }
-      }
-      return kept;
-    }
-
     private void weigh() {
-      int kept = keptStates();
       all++;
       keptSets |= 1L << kept;
       if (kept != states) {
@@ -1777,7 +1778,7 @@ public final class PowersHouse {
     }
 
     private void keepIfBetter() {
-      int least = Integer.MAX_VALUE;
+      int least = MAX_LANDS * MAX_WORTH;
       int sum = 0;
       for (int s = 0; s < MAX_STATES; s++) {
         if (hasBit(states, s)) {
@@ -1850,8 +1851,8 @@ public final class PowersHouse {
     }
 
     private boolean canKeep(int group) {
-      for (int kept = 0; kept < 1 << MAX_STATES; kept++) {
-        if (((keptSets >>> kept) & 1L) != 0 && (group & ~kept) == 0) {
+      for (int set = 0; set < 1 << MAX_STATES; set++) {
+        if (((keptSets >>> set) & 1L) != 0 && (group & ~set) == 0) {
           return true;
         }
       }
@@ -1870,7 +1871,7 @@ public final class PowersHouse {
         }
         choose(k, state);
       }
-      if (keptStates() != states) {
+      if (kept != states) {
         return 1;
       }
       return isStable() ? 3 : 2;
@@ -1879,6 +1880,9 @@ public final class PowersHouse {
 
   /** The SWAP: the shortest ring of exchanges. */
   private static final class Ring {
+    /** Far above what six STATES with twelve LANDS can need. */
+    private static final int MOST_STEPS = 100000;
+
     private final Realm realm;
     private final int[] members = new int[MAX_RING];
     private final int[] lands = new int[MAX_RING];
@@ -1894,13 +1898,12 @@ public final class PowersHouse {
         return;
       }
       foundAt = realm.changes;
-      for (int size = 2; size <= MAX_RING; size++) {
-        if (placeMember(0, size)) {
+      length = 0;
+      for (int size = 2; size <= MAX_RING && length == 0; size++) {
+        if (findMembers(size)) {
           length = size;
-          return;
         }
       }
-      length = 0;
     }
 
     int tell(int what) {
@@ -1914,20 +1917,35 @@ public final class PowersHouse {
       return k >= 0 && k < MAX_RING && k < length ? lands[k] : NONE;
     }
 
-    private boolean placeMember(int k, int size) {
-      if (k < 0 || k >= MAX_RING || k >= size) {
-        return placeLand(0, size);
-      }
-      // The first one is the least, so all others come behind it.
-      for (int s = k == 0 ? 0 : members[0] + 1; s < MAX_STATES; s++) {
-        if (realm.isPresent(s) && !isMember(s, k)) {
-          members[k] = s;
-          if (placeMember(k + 1, size)) {
-            return true;
-          }
+    /** Tries the rings of a size by STATES in order: a step sets one place, or goes one back. */
+    private boolean findMembers(int size) {
+      int k = 0;
+      members[0] = NONE;
+      for (int step = 0; step < MOST_STEPS && k >= 0 && k < MAX_RING; step++) {
+        members[k] = nextMember(k);
+        if (members[k] == NONE) {
+          k--;
+        } else if (k < size - 1 && k + 1 < MAX_RING) {
+          k++;
+          // The first one is the least, so all others come behind it.
+          members[k] = members[0];
+        } else if (findLands(size)) {
+          return true;
         }
       }
       return false;
+    }
+
+    private int nextMember(int k) {
+      if (k < 0 || k >= MAX_RING) {
+        return NONE;
+      }
+      for (int s = members[k] + 1; s < MAX_STATES; s++) {
+        if (realm.isPresent(s) && !isMember(s, k)) {
+          return s;
+        }
+      }
+      return NONE;
     }
 
     private boolean isMember(int state, int size) {
@@ -1939,27 +1957,39 @@ public final class PowersHouse {
       return false;
     }
 
-    private boolean placeLand(int k, int size) {
-      if (k < 0 || k >= MAX_RING || k >= size) {
-        return wins(0, size - 1);
-      }
-      for (int land = 0; land < realm.landCount; land++) {
-        if (realm.holderOf(land) == members[k]) {
-          lands[k] = land;
-          if ((k == 0 || wins(k, k - 1)) && placeLand(k + 1, size)) {
-            return true;
-          }
+    /** Tries the LANDS that the members could give, in order, in the same manner. */
+    private boolean findLands(int size) {
+      int k = 0;
+      lands[0] = NONE;
+      for (int step = 0; step < MOST_STEPS && k >= 0 && k < MAX_RING; step++) {
+        lands[k] = nextLand(k);
+        if (lands[k] == NONE) {
+          k--;
+        } else if (k < size - 1 && k + 1 < MAX_RING) {
+          k++;
+          lands[k] = NONE;
+        } else if (gains(members[0], lands[k], lands[0])) {
+          return true;
         }
       }
       return false;
     }
 
-    /** Whether the member k would rather have the LAND of the one before it than its own. */
-    private boolean wins(int k, int before) {
-      if (k < 0 || k >= MAX_RING || before < 0 || before >= MAX_RING) {
-        return false;
+    private int nextLand(int k) {
+      if (k < 0 || k >= MAX_RING) {
+        return NONE;
       }
-      return realm.worthOf(members[k], lands[before]) > realm.worthOf(members[k], lands[k]);
+      int held = realm.landsHeld(members[k]);
+      for (int land = lands[k] + 1; land < MAX_LANDS; land++) {
+        if (hasBit(held, land) && (k == 0 || gains(members[k], lands[k - 1], land))) {
+          return land;
+        }
+      }
+      return NONE;
+    }
+
+    private boolean gains(int state, int got, int given) {
+      return realm.worthOf(state, got) > realm.worthOf(state, given);
     }
   }
 
@@ -1973,7 +2003,10 @@ public final class PowersHouse {
     private final int[] words = new int[MAX_ARTICLES * MAX_STATES * MAX_DRAFT];
     private final int[] hangsOn = new int[MAX_ARTICLES];
     private final int[] reserves = new int[MAX_ARTICLES];
-    /** At (i, j): the DISTANCE of what is left of one DRAFT from i on and another from j on. */
+    /** The two DRAFTS that are compared. */
+    private final int[] left = new int[MAX_DRAFT];
+    private final int[] right = new int[MAX_DRAFT];
+    /** At (i, j): the DISTANCE of what is left of the one from i on and of the other from j on. */
     private final int[] steps = new int[SIDE * SIDE];
     private final int[] sums = new int[MAX_STATES];
     /** Of each WORD of the BASE, by how many DRAFTS it is HELD. */
@@ -1995,6 +2028,7 @@ public final class PowersHouse {
       return count - 1;
     }
 
+    /** How many WORDS; 0: there is no such DRAFT. */
     int draftLength(int article, int state) {
       if (!isArticle(article) || !realm.isState(state)) {
         return 0;
@@ -2010,18 +2044,24 @@ public final class PowersHouse {
     }
 
     int addWord(int article, int state, int wordOfIt) {
-      int n = draftLength(article, state);
-      if (!isArticle(article) || !realm.isState(state) || n < 0 || n >= MAX_DRAFT) {
+      if (!isArticle(article) || !realm.isState(state)) {
         return NONE;
       }
       int row = article * MAX_STATES + state;
+      int n = lengths[row];
+      if (n < 0 || n >= MAX_DRAFT) {
+        return NONE;
+      }
       words[row * MAX_DRAFT + n] = wordOfIt;
       lengths[row] = n + 1;
       return n + 1;
     }
 
     private int wordAt(int article, int state, int k) {
-      if (k < 0 || k >= MAX_DRAFT || k >= draftLength(article, state)) {
+      if (article < 0 || article >= MAX_ARTICLES || state < 0 || state >= MAX_STATES) {
+        return 0;
+      }
+      if (k < 0 || k >= MAX_DRAFT) {
         return 0;
       }
       return words[(article * MAX_STATES + state) * MAX_DRAFT + k];
@@ -2057,39 +2097,30 @@ public final class PowersHouse {
       return n;
     }
 
-    /** The DISTANCE of two DRAFTS; what is left from each two places on stays in the steps. */
+    /** The DISTANCE of two DRAFTS; both, and the steps from each two places on, stay at hand. */
     int stepsBetween(int article, int a, int b) {
-      int rows = draftLength(article, a);
-      int columns = draftLength(article, b);
+      for (int k = 0; k < MAX_DRAFT; k++) {
+        left[k] = wordAt(article, a, k);
+        right[k] = wordAt(article, b, k);
+      }
+      int rows = Math.min(draftLength(article, a), MAX_DRAFT);
+      int columns = Math.min(draftLength(article, b), MAX_DRAFT);
       for (int i = rows; i >= 0; i--) {
         for (int j = columns; j >= 0; j--) {
           int least = rows - i + columns - j;
           if (i < rows && j < columns) {
-            least = changeCost(article, a, i, b, j) + stepsAt(i + 1, j + 1);
-            least = Math.min(least, 1 + stepsAt(i + 1, j));
-            least = Math.min(least, 1 + stepsAt(i, j + 1));
+            int change = (left[i] == right[j] ? 0 : 1) + steps[(i + 1) * SIDE + j + 1];
+            int other = 1 + Math.min(steps[(i + 1) * SIDE + j], steps[i * SIDE + j + 1]);
+            least = Math.min(change, other);
           }
-          putSteps(i, j, least);
+          steps[i * SIDE + j] = least;
         }
       }
-      return stepsAt(0, 0);
+      return steps[0];
     }
 
-    private int changeCost(int article, int a, int i, int b, int j) {
-      return wordAt(article, a, i) == wordAt(article, b, j) ? 0 : 1;
-    }
-
-    private int stepsAt(int i, int j) {
-      return i >= 0 && i < SIDE && j >= 0 && j < SIDE ? steps[i * SIDE + j] : 0;
-    }
-
-    private void putSteps(int i, int j, int n) {
-      if (i >= 0 && i < SIDE && j >= 0 && j < SIDE) {
-        steps[i * SIDE + j] = n;
-      }
-    }
-
-    private int baseOf(int article) {
+    /** The STATE whose DRAFT is the BASE. */
+    int baseOf(int article) {
       for (int s = 0; s < MAX_STATES; s++) {
         sums[s] = 0;
       }
@@ -2104,7 +2135,7 @@ public final class PowersHouse {
       }
       int base = NONE;
       for (int s = 0; s < MAX_STATES; s++) {
-        if (hasPresentDraft(article, s) && (base == NONE || isBetterBase(s, base))) {
+        if (hasPresentDraft(article, s) && isBetterBase(s, base)) {
           base = s;
         }
       }
@@ -2113,7 +2144,7 @@ public final class PowersHouse {
 
     private boolean isBetterBase(int state, int than) {
       if (state < 0 || state >= MAX_STATES || than < 0 || than >= MAX_STATES) {
-        return false;
+        return true;
       }
       if (sums[state] != sums[than]) {
         return sums[state] < sums[than];
@@ -2127,24 +2158,28 @@ public final class PowersHouse {
       }
       for (int s = 0; s < MAX_STATES; s++) {
         if (hasPresentDraft(article, s)) {
-          addHeldBy(article, base, s);
+          stepsBetween(article, base, s);
+          addHeld(draftLength(article, base), draftLength(article, s));
         }
       }
     }
 
-    private void addHeldBy(int article, int base, int state) {
-      int rows = draftLength(article, base);
-      int columns = draftLength(article, state);
-      stepsBetween(article, base, state);
+    /** Goes the way from the BASE to the DRAFT that was compared with it just now. */
+    private void addHeld(int rows, int columns) {
       int i = 0;
       int j = 0;
-      for (int n = 0; n < 2 * MAX_DRAFT && i < rows && i < MAX_DRAFT; n++) {
-        int cost = changeCost(article, base, i, state, j);
-        if (j < columns && stepsAt(i, j) == cost + stepsAt(i + 1, j + 1)) {
-          held[i] += 1 - cost;
+      // Behind the end of the DRAFT nothing of the BASE is kept.
+      for (int n = 0; n < 2 * MAX_DRAFT; n++) {
+        if (i >= rows || i >= MAX_DRAFT || j >= columns || j >= MAX_DRAFT) {
+          return;
+        }
+        int here = steps[i * SIDE + j];
+        int change = left[i] == right[j] ? 0 : 1;
+        if (here == change + steps[(i + 1) * SIDE + j + 1]) {
+          held[i] += 1 - change;
           i++;
           j++;
-        } else if (stepsAt(i, j) == 1 + stepsAt(i + 1, j)) {
+        } else if (here == 1 + steps[(i + 1) * SIDE + j]) {
           i++;
         } else {
           j++;
@@ -2152,7 +2187,7 @@ public final class PowersHouse {
       }
     }
 
-    private int wordStanding(int heldBy, int drafts) {
+    private static int agreement(int heldBy, int drafts) {
       if (heldBy == drafts) {
         return 2;
       }
@@ -2161,28 +2196,26 @@ public final class PowersHouse {
 
     private boolean isOpenByItself(int article) {
       int base = baseOf(article);
-      if (base == NONE) {
-        return true;
-      }
       countHeld(article, base);
       int drafts = presentDrafts(article);
       int length = draftLength(article, base);
       for (int k = 0; k < length && k < MAX_DRAFT; k++) {
-        if (wordStanding(held[k], drafts) == 0) {
+        if (agreement(held[k], drafts) == 0) {
           return true;
         }
       }
-      return false;
+      return drafts == 0;
     }
 
-    private boolean isOpen(int article) {
+    boolean isOpen(int article) {
       int open = 0;
       for (int k = 0; k < count; k++) {
         if (isOpenByItself(k)) {
           open |= 1 << k;
         }
       }
-      // What is OPEN comes at most through all other ARTICLES.
+      // It starts with those alone, so a ring doesn't make itself OPEN; and it comes through
+      // all other ARTICLES at most.
       for (int round = 0; round < MAX_ARTICLES; round++) {
         for (int k = 0; k < count && k < MAX_ARTICLES; k++) {
           if ((hangsOn[k] & open) != 0) {
@@ -2193,27 +2226,13 @@ public final class PowersHouse {
       return hasBit(open, article);
     }
 
-    private int standsAmong(int article) {
-      if (!isArticle(article) || isOpen(article)) {
+    /** Among how many it STANDS if it isn't OPEN. */
+    int signersOf(int article) {
+      if (!isArticle(article)) {
         return 0;
       }
       int n = Integer.bitCount(realm.present & ~reserves[article]);
       return n >= 2 ? n : 0;
-    }
-
-    int tellLaid(int article, int what) {
-      switch (what) {
-        case 0:
-          return baseOf(article);
-        case 1:
-          return draftLength(article, baseOf(article));
-        case 2:
-          return isOpen(article) ? 1 : 0;
-        case 3:
-          return standsAmong(article);
-        default:
-          return NONE;
-      }
     }
 
     int tellWord(int article, int k, int what) {
@@ -2228,7 +2247,7 @@ public final class PowersHouse {
         case 1:
           return held[k];
         case 2:
-          return wordStanding(held[k], presentDrafts(article));
+          return agreement(held[k], presentDrafts(article));
         default:
           return NONE;
       }
