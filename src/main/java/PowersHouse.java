@@ -1558,62 +1558,89 @@ public final class PowersHouse {
     private static final int ROW = MAX_LANDS * MAX_WORTH + 2;
 
     private final Realm realm;
-    private final int[] madeAt = new int[PAIRS];
+    private int madeAt = NONE;
+    private int rivals = 0;
     /** Of a pair, at v: the most that the second can have if the first has v or more, or NONE. */
     private int[] most = new int[0];
 
     Shares(Realm realm) {
       this.realm = realm;
-      for (int k = 0; k < PAIRS; k++) {
-        madeAt[k] = NONE;
-      }
     }
 
-    /** Whether of two STATES, a before b, each could have more than it is told here. */
-    boolean canBothHaveMore(int a, int b, int ofA, int ofB) {
-      int pair = b * (b - 1) / 2 + a;
-      if (a < 0 || a >= b || b >= MAX_STATES || pair >= PAIRS || ofA < 0 || ofA + 1 >= ROW) {
-        return false;
+    /**
+     * The pairs (bits) that could both have more than they HAVE: where each GETS what it HAS at
+     * least, no other two would rather leave.
+     */
+    int rivalPairs() {
+      if (madeAt == realm.changes) {
+        return rivals;
       }
+      madeAt = realm.changes;
+      rivals = 0;
       if (most.length < PAIRS * ROW) {
         // Many objects never come here, and the table is large.
         most = new int[PAIRS * ROW];
       }
-      if (madeAt[pair] != realm.changes) {
-        madeAt[pair] = realm.changes;
-        fillRow(pair * ROW, a, b);
+      for (int b = 1; b < realm.stateCount; b++) {
+        for (int a = 0; a < b; a++) {
+          if (fillRow(pairOf(a, b) * ROW, a, b)) {
+            rivals |= 1 << pairOf(a, b);
+          }
+        }
       }
-      return most[pair * ROW + ofA + 1] > ofB;
+      return rivals;
     }
 
-    private void fillRow(int start, int a, int b) {
-      if (start < 0 || start + ROW > most.length) {
-        return;
+    static int pairOf(int a, int b) {
+      return b * (b - 1) / 2 + a;
+    }
+
+    /** Whether of two rivals, a before b, each could have more than it is told here. */
+    boolean canBothHaveMore(int a, int b, int ofA, int ofB) {
+      int at = pairOf(a, b) * ROW + ofA + 1;
+      if (a < 0 || a >= b || b >= MAX_STATES || ofA < 0 || ofA + 1 >= ROW || at >= most.length) {
+        return false;
       }
+      return most[at] > ofB;
+    }
+
+    /** Whether both could have more than they HAVE. */
+    private boolean fillRow(int start, int a, int b) {
+      if (start < 0 || start + ROW > most.length) {
+        return false;
+      }
+      int heldByA = realm.landsHeld(a);
+      int heldByB = realm.landsHeld(b);
+      int hasA = 0;
+      int hasB = 0;
+      int reach = 0;
       for (int v = 0; v < ROW; v++) {
         most[start + v] = v == 0 ? 0 : NONE;
       }
-      int lands = realm.landsHeld(a) | realm.landsHeld(b);
-      int reach = 0;
       for (int land = 0; land < MAX_LANDS; land++) {
-        if (hasBit(lands, land)) {
-          reach += realm.worthOf(a, land);
-          addLand(start, reach, realm.worthOf(a, land), realm.worthOf(b, land));
+        if (hasBit(heldByA | heldByB, land)) {
+          int forA = realm.worthOf(a, land);
+          int forB = realm.worthOf(b, land);
+          hasA += hasBit(heldByA, land) ? forA : 0;
+          hasB += hasBit(heldByB, land) ? forB : 0;
+          reach += forA;
+          addLand(start, reach, forA, forB);
         }
       }
       for (int v = Math.min(reach, ROW - 1) - 1; v >= 0; v--) {
         most[start + v] = Math.max(most[start + v], most[start + v + 1]);
       }
+      return hasA + 1 < ROW && most[start + hasA + 1] > hasB;
     }
 
     private void addLand(int start, int reach, int worthForA, int worthForB) {
       if (start < 0 || start + ROW > most.length || worthForA < 0) {
         return;
       }
-      for (int v = Math.min(reach, ROW - 1); v >= 0; v--) {
+      for (int v = reach < ROW ? reach : ROW - 1; v >= 0; v--) {
         int ifB = most[start + v] == NONE ? NONE : most[start + v] + worthForB;
         int ifA = v >= worthForA ? most[start + v - worthForA] : NONE;
-        most[start + v] = Math.max(ifA, ifB);
+        most[start + v] = ifA > ifB ? ifA : ifB;
       }
     }
   }
@@ -1629,9 +1656,11 @@ public final class PowersHouse {
     private int searchedAt = NONE;
     private int disputed = 0;
     private final int[] lands = new int[MAX_DISPUTED];
+    private final int[] claimants = new int[MAX_DISPUTED];
     private final int[] choice = new int[MAX_DISPUTED];
     private final int[] gets = new int[MAX_STATES];
     private final int[] hasNow = new int[MAX_STATES];
+    private final int[] bounds = new int[MAX_STATES];
     /** The STATES (bits) that GET their BOUND. */
     private int kept = 0;
     private int all = 0;
@@ -1639,8 +1668,8 @@ public final class PowersHouse {
     private int stable = 0;
     /** Bit m: some SETTLEMENT keeps the BOUNDS of just the STATES with the bits m. */
     private long keptSets = 0;
-    private boolean isThereBest = false;
-    private int bestGain = 0;
+    /** No gain of a FAIR one is below 0, so NONE: there is no BEST. */
+    private int bestGain = NONE;
     private int bestSum = 0;
     private final int[] bestChoice = new int[MAX_DISPUTED];
 
@@ -1659,13 +1688,13 @@ public final class PowersHouse {
       fair = 0;
       stable = 0;
       keptSets = 0;
-      isThereBest = false;
+      bestGain = NONE;
       prepare(among);
       if (isSpent()) {
         return;
       }
       for (int k = 0; k < disputed && k < MAX_DISPUTED; k++) {
-        choose(k, nextClaimant(lands[k], NONE));
+        choose(k, nextClaimant(k, NONE));
       }
       boolean more = true;
       for (int n = 0; n < MOST_SETTLEMENTS && more; n++) {
@@ -1681,6 +1710,7 @@ public final class PowersHouse {
     /** Finds the DISPUTED LANDS, and what each STATE GETS of the others. */
     private void prepare(int among) {
       states = among;
+      kept = 0;
       disputed = 0;
       int fixed = 0;
       for (int land = 0; land < realm.landCount; land++) {
@@ -1689,6 +1719,7 @@ public final class PowersHouse {
         } else {
           if (disputed < MAX_DISPUTED) {
             lands[disputed] = land;
+            claimants[disputed] = realm.claimsOf(land) & among;
             choice[disputed] = NONE;
           }
           disputed++;
@@ -1697,15 +1728,18 @@ public final class PowersHouse {
       for (int s = 0; s < MAX_STATES; s++) {
         int held = realm.landsHeld(s);
         hasNow[s] = realm.worthOfLands(s, held);
+        bounds[s] = realm.boundOf(s);
         gets[s] = 0;
         addToGets(s, realm.worthOfLands(s, held & fixed));
       }
     }
 
-    private int nextClaimant(int land, int behind) {
-      int claimants = realm.claimsOf(land) & states;
+    private int nextClaimant(int k, int behind) {
+      if (k < 0 || k >= MAX_DISPUTED) {
+        return NONE;
+      }
       for (int s = behind + 1; s < MAX_STATES; s++) {
-        if (hasBit(claimants, s)) {
+        if (((claimants[k] >> s) & 1) != 0) {
           return s;
         }
       }
@@ -1726,8 +1760,8 @@ public final class PowersHouse {
         return;
       }
       gets[state] += n;
-      if (hasBit(states, state) && gets[state] >= realm.boundOf(state)) {
-        kept |= 1 << state;
+      if (gets[state] >= bounds[state]) {
+        kept |= states & (1 << state);
       } else {
         kept &= ~(1 << state);
       }
@@ -1736,12 +1770,12 @@ public final class PowersHouse {
     /** The next SETTLEMENT by STATES of LANDS in order; false: that was the last one. */
     private boolean goOn() {
       for (int k = Math.min(disputed, MAX_DISPUTED) - 1; k >= 0; k--) {
-        int next = nextClaimant(lands[k], choice[k]);
+        int next = nextClaimant(k, choice[k]);
         if (next != NONE) {
           choose(k, next);
           return true;
         }
-        choose(k, nextClaimant(lands[k], NONE));
+        choose(k, nextClaimant(k, NONE));
       }
       return false;
     }
@@ -1765,9 +1799,11 @@ public final class PowersHouse {
           return false;
         }
       }
-      for (int b = 1; b < MAX_STATES; b++) {
+      int rivals = shares.rivalPairs();
+      for (int b = 1; b < MAX_STATES && rivals != 0; b++) {
         for (int a = 0; a < b; a++) {
-          if (hasBit(states, a)
+          if (hasBit(rivals, Shares.pairOf(a, b))
+              && hasBit(states, a)
               && hasBit(states, b)
               && shares.canBothHaveMore(a, b, gets[a], gets[b])) {
             return false;
@@ -1782,15 +1818,14 @@ public final class PowersHouse {
       int sum = 0;
       for (int s = 0; s < MAX_STATES; s++) {
         if (hasBit(states, s)) {
-          least = Math.min(least, gets[s] - realm.boundOf(s));
+          least = Math.min(least, gets[s] - bounds[s]);
           sum += gets[s];
         }
       }
-      boolean better = !isThereBest || least > bestGain || (least == bestGain && sum > bestSum);
+      boolean better = least > bestGain || (least == bestGain && sum > bestSum);
       if (states == 0 || !better) {
         return;
       }
-      isThereBest = true;
       bestGain = least;
       bestSum = sum;
       for (int k = 0; k < MAX_DISPUTED; k++) {
@@ -1815,7 +1850,7 @@ public final class PowersHouse {
     }
 
     int tellBest(int what) {
-      if (!isThereBest) {
+      if (bestGain == NONE) {
         return NONE;
       }
       if (what == MAX_LANDS) {
@@ -1866,7 +1901,7 @@ public final class PowersHouse {
       }
       for (int k = 0; k < disputed && k < MAX_DISPUTED; k++) {
         int state = (row >>> (3 * k)) & 7;
-        if (!hasBit(realm.claimsOf(lands[k]) & among, state)) {
+        if (!hasBit(claimants[k], state)) {
           return 0;
         }
         choose(k, state);
