@@ -1348,7 +1348,7 @@ public final class PowersHouse {
         papers.setStanding(offer, TAKEN);
       } else if (verb == REFUSE) {
         papers.setStanding(offer, REFUSED);
-      } else {
+      } else if (verb == ASK) {
         papers.setStanding(offer, ASKED);
         papers.setAnswerDay(offer, realm.today + 2 * realm.homeOf(to));
       }

@@ -239,6 +239,12 @@ public final class PromisesTest {
     fault("take gainn;", 1, 5);
     fault("take gai;", 1, 5);
     fault("take gain1;", 1, 9);
+    fault("take gainz;", 1, 5);
+    fault("take gaina;", 1, 5);
+    fault("take gain`;", 1, 9);
+    fault("take gain{;", 1, 9);
+    fault("take 9/;", 1, 7);
+    fault("take 9:;", 1, 6);
     fault("take 1;take 1;giv", 1, 14);
     PowersHouse x = house(0, 1);
     due("another what", x.fault(2), NONE);
