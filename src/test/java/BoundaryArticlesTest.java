@@ -274,8 +274,22 @@ public final class BoundaryArticlesTest extends Checks {
     held(row(1, 2, 3, 4, 5, 6, 7, 8), row(1), 2, 1, 1, 1, 1, 1, 1, 1);
     held(row(8), row(1, 2, 3, 4, 5, 6, 7, 8), 2);
     held(row(1, 2, 3, 4, 5, 6, 7, 8), row(2, 3, 4, 5, 6, 7, 8, 9), 1, 2, 2, 2, 2, 2, 2, 2);
+    // One is left out and one put in before the last, so that the way has nine steps; ten.
+    held(row(1, 2, 3, 4, 5, 6, 7, 8), row(2, 3, 4, 5, 6, 7, 9, 8), 1, 2, 2, 2, 2, 2, 2, 2);
+    held(row(1, 2, 3, 4, 5, 6, 7, 8), row(3, 4, 5, 6, 9, 9, 7, 8), 1, 1, 2, 2, 2, 2, 2, 2);
     held(row(1, 1, 1, 1), row(1, 1), 2, 2, 1, 1);
     held(row(5, 1, 1), row(1, 1, 1), 1, 2, 2);
+    // What a DRAFT had before it was gone isn't there.
+    PowersHouse x = house(0, 2);
+    x.article();
+    write(x, 0, 0, 1, 2, 3, 4);
+    write(x, 0, 1, 1, 2, 3, 4);
+    due("kept", x.word(0, 3, 1), 2);
+    write(x, 0, 1, 1, 2);
+    due("kept", x.word(0, 1, 1), 2);
+    due("left out", x.word(0, 2, 1), 1);
+    due("left out", x.word(0, 3, 1), 1);
+    due("DISTANCE", x.distance(0, 0, 1), 2);
   }
 
   private static void laidByItself() {

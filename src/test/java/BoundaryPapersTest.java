@@ -44,6 +44,7 @@ public final class BoundaryPapersTest extends Checks {
     chainOfAll();
     knownToBoth();
     knownHome();
+    knownToOneThatOpens();
     spyBothDays();
     spyDayBehind();
     spyToldLater();
@@ -797,6 +798,27 @@ public final class BoundaryPapersTest extends Checks {
     x.days(1);
     for (int s = 0; s < 6; s++) {
       due("of another one", x.known(1, s), s == 1 ? 1 : NONE);
+    }
+  }
+
+  private static void knownToOneThatOpens() {
+    sentence("SPIES: a STATE opens what another one sends home");
+    for (int spy = 0; spy < 6; spy++) {
+      for (int on = 0; on < 6; on++) {
+        PowersHouse x = house(0, 6);
+        boolean may = x.spy(spy, on, 0, 0);
+        for (int s = 0; s < 6; s++) {
+          x.note(s, s, 9);
+          x.note(s, (s + 1) % 6, 9);
+        }
+        x.days(1);
+        for (int s = 0; s < 6; s++) {
+          due(spy + " on " + on + ": home of " + s, x.known(2 * s, spy),
+              s == spy ? 0 : may && s == on ? 1 : NONE);
+          due(spy + " on " + on + ": " + s + " to the next", x.known(2 * s + 1, spy),
+              s == spy || (s + 1) % 6 == spy ? 0 : NONE);
+        }
+      }
     }
   }
 

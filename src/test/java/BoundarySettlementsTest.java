@@ -10,6 +10,7 @@ public final class BoundarySettlementsTest extends Checks {
     fair();
     stableAlone();
     stableByTwo();
+    stableByAnyTwo();
     spent();
     bestLeastGain();
     bestSum();
@@ -168,11 +169,24 @@ public final class BoundarySettlementsTest extends Checks {
     due("7 isn't more than 5 and 2", exchange(7, 6).judge(0), 3);
     due("8 is, and 6 is more than 5", exchange(8, 6).judge(0), 2);
     due("5 isn't more than 5", exchange(8, 5).judge(0), 3);
+    due("9 is, by two", exchange(9, 6).judge(0), 2);
     due("6 and 6 are more than 5 and 5", exchange(6, 6).judge(1), 2);
     due("5 isn't more than 5", exchange(5, 6).judge(1), 3);
     PowersHouse x = exchange(8, 6);
     x.leave(1);
     due("one of them left", x.judge(0), 3);
+    // 1 GETS LAND 2 of WORTH 1, too: then 6 isn't more than 6, but 7 is.
+    x = exchange(8, 6);
+    x.worth(1, 2, 1);
+    due("6 isn't more than 6", x.judge(1), 3);
+    x.worth(1, 0, 7);
+    due("7 is more than 6", x.judge(1), 2);
+    // What one doesn't care for, and GETS nothing by, it gives away gladly.
+    x = exchange(3, 6);
+    x.worth(0, 0, 0);
+    due("3 is more than 0", x.judge(1), 2);
+    x.worth(0, 1, 0);
+    due("0 isn't more than 0", x.judge(1), 3);
     // What a third one holds can't be shared; what nobody holds neither.
     x = exchange(8, 6);
     x.hold(1, 2);
@@ -200,6 +214,27 @@ public final class BoundarySettlementsTest extends Checks {
       x.worth(l % 2, l, 99);
     }
     due("1188 in all, 594 each", x.settle(3), 1);
+  }
+
+  private static void stableByAnyTwo() {
+    sentence("and of no two PRESENT STATES all LANDS");
+    for (int a = 0; a < 6; a++) {
+      for (int b = 0; b < 6; b++) {
+        if (a != b) {
+          PowersHouse x = house(2, 6);
+          x.hold(0, a);
+          x.hold(1, b);
+          x.worth(a, 1, 1);
+          due(b + " HAS nothing to win", x.settle(3), 1);
+          x.worth(b, 0, 1);
+          due(a + " and " + b, x.settle(3), 0);
+          due(a + " and " + b, x.judge(0), 2);
+          due("without " + a, x.without(a, 12), 0);
+          x.leave(b);
+          due(b + " left", x.settle(3), 1);
+        }
+      }
+    }
   }
 
   private static void spent() {
@@ -558,6 +593,13 @@ public final class BoundarySettlementsTest extends Checks {
     due("LAND 3", x.swap(6), 3);
     x.worth(1, 3, 1);
     due("LAND 5", x.swap(6), 5);
+    x.worth(1, 3, 0);
+    due("LAND 3 again", x.swap(6), 3);
+    x.worth(0, 1, 1);
+    due("LAND 1 again", x.swap(6), 1);
+    x.worth(0, 0, 0);
+    due("LAND 0 again", x.swap(5), 0);
+    due("with LAND 1", x.swap(6), 1);
   }
 
   // ---------------------------------------------------------------- promises 22 to 27

@@ -12,6 +12,7 @@ public final class BoundaryTextTest extends Checks {
     ordersEmptyTheTape();
     ordersLines();
     ordersFault();
+    ordersBehindFault();
     ordersRefused();
     faultOfLatest();
     faultWithout();
@@ -188,6 +189,26 @@ public final class BoundaryTextTest extends Checks {
     due("a text with a FAULT is no ORDERS", x.tries(0, 0), 5);
   }
 
+  /** What a text with a FAULT left unread is not of the next one. */
+  private static void ordersBehindFault() {
+    sentence("are the ORDERS of a STATE: how many lines; NONE with a FAULT;");
+    String[] faults = {"take 1+", "take 1+2*", "take not", "take -", "take 1 or 2 and 3=",
+        "take ((((((((1", "take 1=1=1", "take 1" + "+1".repeat(32), "take 1;".repeat(17),
+        "take 100000"};
+    for (String text : faults) {
+      PowersHouse x = house(1, 2);
+      x.offer(0, 1, 1, 0, 9, NONE);
+      due("[" + text + "]", told(x, 1, text), NONE);
+      due("the next one", told(x, 1, "take ((((((((5))))))))<6;take 7;"), 2);
+      due("its first line", x.tries(0, 0), 1);
+      due("its second line", x.tries(0, 1), 7);
+      due("and no third", x.tries(0, 2), ERROR);
+      due("[" + text + "]", told(x, 1, text), NONE);
+      due("64 KNOTS", told(x, 1, "take -1" + "+1".repeat(31) + ";"), 1);
+      due("their VALUE", x.tries(0, 0), 30);
+    }
+  }
+
   private static void ordersRefused() {
     sentence("-2, and the TAPE stays: there are not so many, n is below 0, no such STATE.");
     for (int n : outside(0, 40)) {
@@ -221,6 +242,7 @@ public final class BoundaryTextTest extends Checks {
     due("of another STATE", x.fault(1), 4);
     due("without FAULT", x.orders(0, 0), 0);
     due("without FAULT", x.fault(0), 0);
+    due("without FAULT", x.fault(1), NONE);
   }
 
   private static void faultWithout() {
@@ -327,6 +349,14 @@ public final class BoundaryTextTest extends Checks {
       fault("take 1" + sign + "2;take 1" + sign + "2;", 0, 0);
       fault("take not 1" + sign + "2;", 0, 0);
     }
+    value("1=1+1", 0);
+    value("1+1=2", 1);
+    value("3<2+2", 1);
+    value("3-3>1-2", 1);
+    value("4=2*2", 1);
+    value("-1<0", 1);
+    value("1=1 and 2=2", 1);
+    value("0 or 2=2", 1);
   }
 
   private static void notOnlyBeforeClauses() {
@@ -335,6 +365,9 @@ public final class BoundaryTextTest extends Checks {
     fault("take not not not 1;", 0, 0);
     fault("take 1 and not 1 or not 1;", 0, 0);
     fault("take (not 1);", 0, 0);
+    fault("take 1+(not 1);", 0, 0);
+    fault("take -(not 1);", 0, 0);
+    fault("take 1=(not 1);", 0, 0);
     fault("take not;", 1, 8);
     fault("take not and 1;", 1, 9);
     fault("take 1 not;", 1, 7);
@@ -342,6 +375,11 @@ public final class BoundaryTextTest extends Checks {
     fault("take 1*not 1;", 1, 7);
     fault("take 1=not 1;", 1, 7);
     fault("take -not 1;", 1, 6);
+    value("not 1=2", 1);
+    value("not 0+1", 0);
+    value("not 0 and 0", 0);
+    value("not 1 or 1", 1);
+    value("not (1 or 1)", 0);
   }
 
   private static void minusOnlyBeforeTerms() {
@@ -600,6 +638,11 @@ public final class BoundaryTextTest extends Checks {
     fault("take " + "(1)+".repeat(31) + "((((1))));", 0, 0);
     fault("take 1+1+1+1;".repeat(9) + "take 1;", 0, 0);
     fault("take 1+1+1+1;".repeat(9) + "take 1+1;", 2, 117 + 6);
+    value("-1" + "+1".repeat(31), 30);
+    value("not ".repeat(63) + "1", 0);
+    value("not ".repeat(62) + "gain", 0);
+    value("-".repeat(63) + "1", -1);
+    value("-(".repeat(8) + "-1" + ")".repeat(8) + "-1".repeat(27), -28);
     // The next text begins anew.
     PowersHouse x = house(0, 1);
     due("64 KNOTS", told(x, 0, "take -1" + "+1".repeat(31) + ";"), 1);
@@ -756,6 +799,13 @@ public final class BoundaryTextTest extends Checks {
     due("none holds", x.why(0), NONE);
     x.days(1);
     due("it stays", x.paper(0, 2), 0);
+    // As often as it may be: what was left half worked out isn't of the next VALUE.
+    told(x, 1, "take 1+(2+(3+(4/0))); take 7;");
+    for (int k = 0; k < 70; k++) {
+      due("an ERROR", x.tries(0, 0), ERROR);
+      due("the line behind it", x.tries(0, 1), 7);
+      due("it is the line that does", x.why(0), 1);
+    }
     told(x, 1, "take 10000*10000*10000;");
     due("the greatest holds", x.why(0), 0);
     told(x, 1, "take -10000*10000*10000;");
