@@ -11,6 +11,7 @@ public final class BoundarySettlementsTest extends Checks {
     stableAlone();
     stableByTwo();
     stableByAnyTwo();
+    asThingsAreNow();
     spent();
     bestLeastGain();
     bestSum();
@@ -235,6 +236,61 @@ public final class BoundarySettlementsTest extends Checks {
         }
       }
     }
+  }
+
+  /** What was asked before the latest changes is answered no more, whatever those were. */
+  private static void asThingsAreNow() {
+    sentence("no PRESENT STATE HAS (now) more than it GETS,");
+    for (int first = 0; first < 7; first++) {
+      for (int then = 0; then < 7; then++) {
+        PowersHouse asked = exchange(6, 6);
+        answers(asked);
+        change(asked, first, 0);
+        change(asked, then, 1);
+        PowersHouse unasked = exchange(6, 6);
+        change(unasked, first, 0);
+        change(unasked, then, 1);
+        due("changes " + first + " and " + then, answers(asked), answers(unasked));
+      }
+    }
+  }
+
+  private static void change(PowersHouse x, int which, int k) {
+    switch (which) {
+      case 0:
+        x.land(1);
+        break;
+      case 1:
+        x.state(1, 1);
+        break;
+      case 2:
+        x.leave(k);
+        break;
+      case 3:
+        x.claim(k, 2, true);
+        x.claim(k, k, true);
+        break;
+      case 4:
+        x.bound(k, 7);
+        break;
+      case 5:
+        x.worth(k, 2, 50);
+        break;
+      default:
+        x.hold(2, k);
+    }
+  }
+
+  private static long answers(PowersHouse x) {
+    long all = x.core();
+    for (int what = 0; what < 14; what++) {
+      all = 31 * all + x.best(what);
+      all = 31 * all + x.without(2, what);
+      all = 31 * all + x.settle(what % 4);
+      all = 31 * all + x.swap(what % 9);
+      all = 31 * all + x.judge(what);
+    }
+    return all;
   }
 
   private static void spent() {
