@@ -1554,13 +1554,16 @@ public final class PowersHouse {
   /** How two STATES could share all LANDS that they hold now. */
   private static final class Shares {
     private static final int PAIRS = 15;
-    /** WORTHS of all LANDS for one STATE at most, and one place more to ask for more than that. */
-    private static final int ROW = MAX_LANDS * MAX_WORTH + 2;
+    /** A LAND counts in the five pairs of its HOLDER alone; 0 needs a place in each row, too. */
+    private static final int ROOM = MAX_LANDS * (MAX_STATES - 1) * MAX_WORTH + PAIRS;
 
     private final Realm realm;
     private int madeAt = NONE;
     private int rivals = 0;
-    /** Of a pair, at v: the most that the second can have if the first has v or more, or NONE. */
+    /** Of a pair: where its row begins, and the most that the first could have: its last place. */
+    private final int[] start = new int[PAIRS];
+    private final int[] reach = new int[PAIRS];
+    /** In a row, at v: the most that the second can have if the first has v or more, or NONE. */
     private int[] most = new int[0];
 
     Shares(Realm realm) {
@@ -1577,13 +1580,15 @@ public final class PowersHouse {
       }
       madeAt = realm.changes;
       rivals = 0;
-      if (most.length < PAIRS * ROW) {
+      if (most.length < ROOM) {
         // Many objects never come here, and the table is large.
-        most = new int[PAIRS * ROW];
+        most = new int[ROOM];
       }
+      int next = 0;
       for (int b = 1; b < realm.stateCount; b++) {
         for (int a = 0; a < b; a++) {
-          if (fillRow(pairOf(a, b) * ROW, a, b)) {
+          next = fillRow(next, a, b);
+          if (canBothHaveMore(a, b, realm.worthHeld(a), realm.worthHeld(b))) {
             rivals |= 1 << pairOf(a, b);
           }
         }
@@ -1597,50 +1602,49 @@ public final class PowersHouse {
 
     /** Whether of two rivals, a before b, each could have more than it is told here. */
     boolean canBothHaveMore(int a, int b, int ofA, int ofB) {
-      int at = pairOf(a, b) * ROW + ofA + 1;
-      if (a < 0 || a >= b || b >= MAX_STATES || ofA < 0 || ofA + 1 >= ROW || at >= most.length) {
+      int pair = pairOf(a, b);
+      if (a < 0 || a >= b || pair >= PAIRS || ofA < 0 || ofA >= reach[pair]) {
         return false;
       }
-      return most[at] > ofB;
+      int at = start[pair] + ofA + 1;
+      return at >= 0 && at < most.length && most[at] > ofB;
     }
 
-    /** Whether both could have more than they HAVE. */
-    private boolean fillRow(int start, int a, int b) {
-      if (start < 0 || start + ROW > most.length) {
-        return false;
+    /** Makes the row of two STATES from a place on; answers where the next row begins. */
+    private int fillRow(int first, int a, int b) {
+      int pair = pairOf(a, b);
+      int both = realm.landsHeld(a) | realm.landsHeld(b);
+      int last = first + realm.worthOfLands(a, both);
+      if (pair < 0 || pair >= PAIRS || first < 0 || last >= most.length) {
+        return first;
       }
-      int heldByA = realm.landsHeld(a);
-      int heldByB = realm.landsHeld(b);
-      int hasA = 0;
-      int hasB = 0;
-      int reach = 0;
-      for (int v = 0; v < ROW; v++) {
-        most[start + v] = v == 0 ? 0 : NONE;
+      start[pair] = first;
+      reach[pair] = last - first;
+      for (int at = first; at <= last; at++) {
+        most[at] = at == first ? 0 : NONE;
       }
+      int end = first;
       for (int land = 0; land < MAX_LANDS; land++) {
-        if (hasBit(heldByA | heldByB, land)) {
-          int forA = realm.worthOf(a, land);
-          int forB = realm.worthOf(b, land);
-          hasA += hasBit(heldByA, land) ? forA : 0;
-          hasB += hasBit(heldByB, land) ? forB : 0;
-          reach += forA;
-          addLand(start, reach, forA, forB);
+        if (hasBit(both, land)) {
+          end += realm.worthOf(a, land);
+          addLand(first, end, realm.worthOf(a, land), realm.worthOf(b, land));
         }
       }
-      for (int v = Math.min(reach, ROW - 1) - 1; v >= 0; v--) {
-        most[start + v] = Math.max(most[start + v], most[start + v + 1]);
+      for (int at = last - 1; at >= first; at--) {
+        most[at] = Math.max(most[at], most[at + 1]);
       }
-      return hasA + 1 < ROW && most[start + hasA + 1] > hasB;
+      return last + 1;
     }
 
-    private void addLand(int start, int reach, int worthForA, int worthForB) {
-      if (start < 0 || start + ROW > most.length || worthForA < 0) {
+    /** The LAND may be the second's, or the first's; so far the row goes from a place to an end. */
+    private void addLand(int first, int end, int worthForA, int worthForB) {
+      if (first < 0 || end >= most.length || worthForA < 0) {
         return;
       }
-      for (int v = reach < ROW ? reach : ROW - 1; v >= 0; v--) {
-        int ifB = most[start + v] == NONE ? NONE : most[start + v] + worthForB;
-        int ifA = v >= worthForA ? most[start + v - worthForA] : NONE;
-        most[start + v] = ifA > ifB ? ifA : ifB;
+      for (int at = end; at >= first; at--) {
+        int ifB = most[at] == NONE ? NONE : most[at] + worthForB;
+        int ifA = at - worthForA >= first ? most[at - worthForA] : NONE;
+        most[at] = ifA > ifB ? ifA : ifB;
       }
     }
   }

@@ -11,6 +11,7 @@ public final class BoundarySettlementsTest extends Checks {
     stableAlone();
     stableByTwo();
     stableByAnyTwo();
+    stableByTheLastTwo();
     asThingsAreNow();
     spent();
     bestLeastGain();
@@ -236,6 +237,32 @@ public final class BoundarySettlementsTest extends Checks {
         }
       }
     }
+  }
+
+  /** All LANDS are held, and of the greatest WORTHS: as much as there can be to share. */
+  private static void stableByTheLastTwo() {
+    sentence("all LANDS that they hold now could be shared between them so that each has more than "
+        + "it GETS.");
+    PowersHouse x = house(12, 6);
+    for (int l = 0; l < 12; l++) {
+      x.hold(l, l == 0 ? 4 : l < 3 ? 5 : l % 4);
+      for (int s = 0; s < 5; s++) {
+        x.worth(s, l, 99);
+      }
+    }
+    x.worth(5, 1, 1);
+    x.worth(5, 2, 1);
+    x.worth(5, 0, 2);
+    due("2 isn't more than 1 and 1", x.settle(3), 1);
+    x.worth(5, 0, 3);
+    due("3 is, and 198 is more than 99", x.settle(3), 0);
+    due("FAIR alone", x.judge(0), 2);
+    due("without 4 nothing is to be won", x.without(4, 12), 2);
+    x.worth(5, 0, 99);
+    x.worth(4, 1, 0);
+    due("99 isn't more than 99", x.settle(3), 1);
+    x.worth(4, 1, 1);
+    due("100 is", x.settle(3), 0);
   }
 
   /** What was asked before the latest changes is answered no more, whatever those were. */
